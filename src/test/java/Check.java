@@ -90,6 +90,15 @@ final class Check {
 
     /** The mark ^ in the text tells where the error is due; it is not fed. */
     static void compileError(int error, String marked) {
+        lookAtError(error, marked);
+        // Of several errors the first is told, so that wrong items behind it make no difference.
+        String wrongItems = "food zz 9999;dish zz for 0:0 zz;meal zz:zz;rule apart 0 zz;rule most 9 zz in 0;";
+        if (error >= 2 && error <= 5 && marked.length() + wrongItems.length() <= 1500) {
+            lookAtError(error, marked + wrongItems);
+        }
+    }
+
+    private static void lookAtError(int error, String marked) {
         int position = marked.indexOf('^');
         String program = marked.replace("^", "");
         MenuScript script = new MenuScript();

@@ -11,6 +11,7 @@ public final class FormTest {
         endAnywhere();
         dishesAndTags();
         depth();
+        greatestDepth();
         lengthOfChoice();
         choicesOfTest();
         Check.end("FormTest");
@@ -167,6 +168,21 @@ public final class FormTest {
         Check.compiled(START + "meal m:not not not(not not(not d and d)and not not not not d)and not(d);");
         Check.compiled(START + "meal m:" + Check.repeat(8, "(", "") + "d" + Check.repeat(8, ")", "") + ","
             + Check.repeat(8, "not ", "") + "d;");
+    }
+
+    /** Where nothing but a name may stand any more. */
+    private static void greatestDepth() {
+        String[] others = {";", ",d;", ")", "and d;", "or d;", "1;", "food b 1;", "is t;", ":d;"};
+        for (String other : others) {
+            Check.compileError(1, START + "meal m:" + Check.repeat(8, "not ", "") + "^" + other);
+            Check.compileError(1, START + "meal m:" + Check.repeat(8, "(", "") + "^" + other);
+            Check.compileError(1, START + "meal m:" + Check.repeat(8, "(", "") + "d and ^" + other);
+            Check.compileError(1, START + "meal m:" + Check.repeat(7, "(", "") + "^" + other);
+        }
+        Check.compileError(1, START + "meal m:" + Check.repeat(8, "(", "") + "^" + Check.repeat(8, ")", "") + ";");
+        MenuScript script = Check.compiled(START + MEAL);
+        Check.testError(script, 1, Check.repeat(8, "not ", "") + "^");
+        Check.testError(script, 1, Check.repeat(8, "(", "") + "^" + Check.repeat(8, ")", ""));
     }
 
     private static void lengthOfChoice() {

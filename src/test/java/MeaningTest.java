@@ -7,6 +7,7 @@ public final class MeaningTest {
     public static void main(String[] args) {
         unknownNames();
         takenNames();
+        namesAlike();
         tooManyItems();
         tooManyPartsAndTags();
         ranges();
@@ -55,6 +56,26 @@ public final class MeaningTest {
         Check.compileError(3, START + MEAL + "dish ^m for 1:1 a;");
         Check.compileError(3, "food a 1;food b 1;food c 1;food ^a 1;");
         Check.compiled("food a 1 is a,d,m;dish d for 1:1 a is d,m;meal m:m,a,d;rule apart 1 a;food t 1;dish u for 1:1 t;");
+    }
+
+    private static void namesAlike() {
+        String[] names = {"a", "aa", "aaa", "b", "bb", "ab", "ba", "z", "zz", "az", "za", "aaaaaaaaaa", "zzzzzzzzzz",
+            "aaaaaaaaab", "baaaaaaaaa", "yz"};
+        StringBuilder foods = new StringBuilder();
+        StringBuilder tags = new StringBuilder();
+        for (int i = 0; i < names.length; i++) {
+            foods.append("food ").append(names[i]).append(" ").append(i).append(";");
+            tags.append(i == 0 ? "" : ",").append(names[i]);
+        }
+        MenuScript script = Check.compiled(foods + "dish d for 1:100 aa,100 zz is " + tags + ";" + MEAL);
+        Check.sameLong("the energy of like names", script.dish(0, 1), 1 + 8);
+        Check.sameLong("the tags of like names", script.count(5), 16);
+        Check.sameLong("the grams of aa", script.grams(0, 1), 100);
+        for (String name : names) {
+            Check.compileError(3, foods + "dish ^" + name + " for 1:1 a;");
+            Check.compileError(2, "food q 1;dish d for 1:1 ^" + name + ";");
+            Check.testError(script, 2, "^" + name.substring(name.length() / 10) + "q");
+        }
     }
 
     private static void tooManyItems() {
