@@ -10,6 +10,7 @@ public final class MenuScript {
     private static final int MOST_RULES = 8;
     private static final int MOST_PARTS = 8;
     private static final int MOST_DAYS = 14;
+    private static final int MOST_PLACES = MOST_DAYS * MOST_CHOICES;
     private static final int MOST_DEPTH = 8;
     private static final int MOST_CHOICE_TOKENS = 30;
     private static final int MOST_PEOPLE = 1000;
@@ -83,7 +84,7 @@ public final class MenuScript {
             return ERROR_FORM;
         }
         int error = meaningReader.readProgram();
-        errorPosition = meaningReader.errorPosition;
+        errorPosition = tokens.startOf(meaningReader.errorToken);
         if (error != 0) {
             program.clear();
             return error;
@@ -754,10 +755,10 @@ public final class MenuScript {
 
         /** The grams of a food in so many servings of a dish; a long, for servings and grams may both be many. */
         long gramsFor(int number, int dish, int food) {
-            if (!dishes.has(dish) || servings[dish] < 1) {
+            if (dish < 0 || dish >= MOST_DISHES || food < 0 || food >= MOST_FOODS || servings[dish] < 1) {
                 return 0;
             }
-            return (long) number * gramsOf(dish, food) / servings[dish];
+            return (long) number * gramsIn[dish][food] / servings[dish];
         }
 
         long addTo(long start) {
@@ -895,7 +896,7 @@ public final class MenuScript {
         private final int[] ruleTag = new int[MOST_RULES];
         private int at;
         private int error;
-        int errorPosition;
+        private int errorToken;
         private int number;
         private int tagSet;
         private long dishEnergy;
@@ -910,24 +911,20 @@ public final class MenuScript {
         int readProgram() {
             at = 0;
             error = 0;
-            errorPosition = NONE;
+            errorToken = NONE;
             boolean isRight = true;
             for (int i = 0; i < Tape.MOST && isRight && !isKind(Tokens.END); i++) {
-                isRight = readItem();
+                switch (tokens.kindOf(at)) {
+                    case Tokens.FOOD: isRight = readFood(); break;
+                    case Tokens.DISH: isRight = readDish(); break;
+                    case Tokens.MEAL: isRight = readMeal(); break;
+                    default: isRight = readRule(); break;
+                }
             }
             if (isRight && (program.dishes.size == 0 || program.meals.size == 0)) {
                 fail(ERROR_NOTHING_TOLD, at);
             }
             return error;
-        }
-
-        private boolean readItem() {
-            switch (tokens.kindOf(at)) {
-                case Tokens.FOOD: return readFood();
-                case Tokens.DISH: return readDish();
-                case Tokens.MEAL: return readMeal();
-                default: return readRule();
-            }
         }
 
         private boolean readFood() {
@@ -1233,7 +1230,7 @@ public final class MenuScript {
 
         private boolean fail(int code, int token) {
             error = code;
-            errorPosition = tokens.startOf(token);
+            errorToken = token;
             return false;
         }
     }
@@ -1366,8 +1363,8 @@ public final class MenuScript {
             int second = program.rules.second[rule];
             switch (program.rules.sort[rule]) {
                 case RuleRow.APART: faultsBy[rule] = closePairs(rule, first); break;
-                case RuleRow.MOST: faultsBy[rule] = spansAbove(rule, first, Math.min(second, days)); break;
-                case RuleRow.LEAST: faultsBy[rule] = spansBelow(rule, first, second); break;
+                case RuleRow.MOST: faultsBy[rule] = spansOutside(rule, 0, first, Math.min(second, days)); break;
+                case RuleRow.LEAST: faultsBy[rule] = spansOutside(rule, first, MOST_PLACES, second); break;
                 default: faultsBy[rule] = daysOutside(first, second); break;
             }
         }
@@ -1386,24 +1383,15 @@ public final class MenuScript {
             return pairs;
         }
 
-        private int spansAbove(int rule, int most, int span) {
-            int spans = 0;
-            for (int first = 0; first + span <= days; first++) {
-                if (meantIn(rule, first, span) > most) {
-                    spans++;
+        private int spansOutside(int rule, int least, int most, int span) {
+            int outside = 0;
+            for (int first = 0; first + span <= days && first < MOST_DAYS; first++) {
+                int meant = meantIn(rule, first, span);
+                if (meant < least || meant > most) {
+                    outside++;
                 }
             }
-            return spans;
-        }
-
-        private int spansBelow(int rule, int least, int span) {
-            int spans = 0;
-            for (int first = 0; first + span <= days; first++) {
-                if (meantIn(rule, first, span) < least) {
-                    spans++;
-                }
-            }
-            return spans;
+            return outside;
         }
 
         private int meantIn(int rule, int first, int span) {
