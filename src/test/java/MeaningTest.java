@@ -17,6 +17,8 @@ public final class MeaningTest {
         whichIsFirst();
         namesOfTest();
         programIsGone();
+        latestError();
+        testLeavesTheProgram();
         Check.end("MeaningTest");
     }
 
@@ -260,5 +262,44 @@ public final class MeaningTest {
         }
         Check.sameLong("times behind compile", script.times(0), 0);
         Check.sameLong("buy behind compile", script.buy(0, 9), 0);
+    }
+
+    /** The position is that of the latest compile or test, and no other call changes it. */
+    private static void latestError() {
+        MenuScript script = new MenuScript();
+        Check.sameLong("errorAt() ahead of all", script.errorAt(), -1);
+        Check.sameLong("compile() of an empty tape", script.compile(), 1);
+        Check.sameLong("errorAt() of an empty tape", script.errorAt(), 0);
+        Check.write(script, START + MEAL);
+        Check.sameLong("errorAt() behind feed and trim", script.errorAt(), 0);
+        Check.sameLong("compile()", script.compile(), 0);
+        Check.sameLong("errorAt() without an error", script.errorAt(), -1);
+        Check.testError(script, 2, "d or ^nosuch");
+        script.plan(3);
+        script.set(0, 0, -1);
+        script.improve();
+        script.exchange(0, 1);
+        Check.isThrown("plan(0)", Check.BAD_ARGUMENT, () -> script.plan(0));
+        Check.sameLong("errorAt() behind other calls", script.errorAt(), 5);
+        Check.sameLong("test() of an empty tape", script.test(), 1);
+        Check.sameLong("errorAt() of an empty choice", script.errorAt(), 0);
+        Check.suits(script, 1, "d");
+        Check.write(script, "food a 901;");
+        Check.sameLong("errorAt() ahead of compile", script.errorAt(), -1);
+        Check.sameLong("compile() of a wrong number", script.compile(), 5);
+        Check.sameLong("errorAt() of a wrong number", script.errorAt(), 7);
+    }
+
+    private static void testLeavesTheProgram() {
+        String[] choices = {"d", "not d", "nosuch", "d d", "", START + MEAL};
+        int[] errors = {0, 0, 2, 1, 1, 1};
+        MenuScript script = Check.compiled(START + MEAL + "rule apart 2 t;");
+        script.plan(5);
+        long digest = script.digest();
+        for (int i = 0; i < choices.length; i++) {
+            Check.write(script, choices[i]);
+            Check.sameLong("test() of " + choices[i], script.test(), errors[i]);
+            Check.sameLong("digest() behind test() of " + choices[i], script.digest(), digest);
+        }
     }
 }

@@ -16,6 +16,8 @@ public final class MenuTest {
         faultsOfLeast();
         faultsOfEnergy();
         improving();
+        improvingTies();
+        improvingTakesNothingAway();
         exchanging();
         daysAndTimes();
         buying();
@@ -235,6 +237,44 @@ public final class MenuTest {
         Check.sameLong("improve() to the best", best.improve(), 3);
         show(best, "dd df de ");
         Check.sameLong("improve() of a menu of no days", Check.compiled(START + "meal m:d;").improve(), 0);
+    }
+
+    /** Of several changes that leave the fewest faults, the least day comes first, then the choice, then the dish. */
+    private static void improvingTies() {
+        MenuScript script = menu(3, "meal m:t or u,t or u;rule energy 1 to 9999;");
+        fill(script, "-- -- --");
+        Check.sameLong("improve() of nothing", script.improve(), 7);
+        show(script, "d- -- -- ");
+        Check.sameLong("improve() of the next day", script.improve(), 5);
+        show(script, "d- d- -- ");
+        Check.sameLong("improve() of the last day", script.improve(), 3);
+        show(script, "d- d- d- ");
+        Check.sameLong("improve() of the next choice", script.improve(), 2);
+        show(script, "dd d- d- ");
+
+        MenuScript later = menu(2, "meal m:t,t or u;rule least 1 e in 1;rule most 0 d in 14;rule most 0 f in 14;");
+        fill(later, "d- fd");
+        Check.sameLong("faults() ahead", later.faults(), 1 + 2 + 1 + 1);
+        Check.sameLong("improve() of the last choice", later.improve(), 3);
+        show(later, "de fd ");
+        // The dish e in the last place would leave two faults too, but in a later choice.
+        Check.sameLong("improve() of the choice ahead", later.improve(), 2);
+        show(later, "de dd ");
+        Check.sameLong("improve() of the last place", later.improve(), 1);
+        show(later, "de de ");
+        Check.sameLong("improve() that would make more", later.improve(), 1);
+        show(later, "de de ");
+    }
+
+    /** No dish at all is no change that improve makes, however many faults it would take away. */
+    private static void improvingTakesNothingAway() {
+        MenuScript script = menu(1, "meal m:d,d,d;rule apart 1 d;rule apart 2 d;rule most 0 d in 1;");
+        fill(script, "ddd");
+        Check.sameLong("improve()", script.improve(), 3 + 3 + 1);
+        show(script, "ddd ");
+        fill(script, "-dd");
+        Check.sameLong("improve() with a gap", script.improve(), 1 + 1 + 1 + 1);
+        show(script, "-dd ");
     }
 
     private static void exchanging() {

@@ -4,6 +4,8 @@ import java.util.List;
 /** All promises: long runs of calls on the class and on the model, whose answers must be the same. */
 public final class ModelTest {
     private static final int RUNS = 1500;
+    /** Where full programs without an error are counted, behind the errors 0 to 6. */
+    private static final int FULL = 7;
     private static final String[] KEYWORDS = ("food dish for is of meal rule apart most least in energy to and or not "
         + "price").split(" ");
 
@@ -16,6 +18,8 @@ public final class ModelTest {
     private List<String> tags;
     private List<String> dishes;
     private boolean isWild;
+    /** A program with as much as can be told, for the model's slowness in few runs alone. */
+    private boolean isFull;
 
     private ModelTest(int run) {
         this.run = run;
@@ -24,7 +28,7 @@ public final class ModelTest {
 
     public static void main(String[] args) {
         int right = 0;
-        int[] errors = new int[7];
+        int[] errors = new int[FULL + 1];
         for (int run = 0; run < RUNS; run++) {
             new ModelTest(run).calls(errors);
         }
@@ -33,6 +37,7 @@ public final class ModelTest {
             Check.sameLong("programs with error " + error, errors[error] > 20 ? 1 : 0, 1);
             right += errors[error];
         }
+        Check.sameLong("full programs without an error", errors[FULL] > 100 ? 1 : 0, 1);
         System.out.println("ModelTest: " + right + " programs, " + errors[0] + " of them right");
         Check.end("ModelTest");
     }
@@ -40,8 +45,9 @@ public final class ModelTest {
     private void calls(int[] errors) {
         while (left > 80) {
             isWild = chance(30);
+            isFull = !isWild && run % 10 == 0;
             String program = program();
-            if (chance(20)) {
+            if (chance(isFull ? 3 : 20)) {
                 program = spoiled(program);
             }
             if (program.length() > 1500) {
@@ -50,10 +56,11 @@ public final class ModelTest {
             write(program);
             long error = same("compile()", () -> script.compile(), () -> model.compile());
             errors[(int) error]++;
+            errors[FULL] += isFull && error == 0 ? 1 : 0;
             same("errorAt()", () -> script.errorAt(), () -> model.errorAt());
             sameDigest();
             lookAtFacts();
-            int steps = model.count(1) == 0 ? 3 : 10 + below(60);
+            int steps = model.count(1) == 0 ? 3 : isFull ? 150 : 10 + below(60);
             for (int step = 0; step < steps && left > 12; step++) {
                 callOnce();
             }
@@ -96,7 +103,7 @@ public final class ModelTest {
                     () -> model.set(a, choice, dish));
                 break;
             case 4:
-                if (chance(40)) {
+                if (chance(isFull ? 10 : 40)) {
                     same("improve()", () -> script.improve(), () -> model.improve());
                 }
                 break;
@@ -195,16 +202,16 @@ public final class ModelTest {
         dishes = new ArrayList<>();
         StringBuilder text = new StringBuilder();
         int most = chance(5) ? 17 : 6;
-        int foodCount = 1 + below(most);
+        int foodCount = isFull ? 16 : 1 + below(most);
         for (int i = 0; i < foodCount; i++) {
             text.append("food ").append(told(foods, 'f')).append(blank()).append(number(0, 900));
-            text.append(chance(60) ? " price " + number(0, 999) : "").append(tagsOf()).append(";");
+            text.append(chance(isFull ? 20 : 60) ? " price " + number(0, 999) : "").append(tagsOf()).append(";");
         }
-        int dishCount = 1 + below(chance(5) ? 17 : 7);
-        int mealCount = 1 + below(isWild ? 5 : 3);
-        int ruleCount = below(isWild && chance(20) ? 12 : 6);
+        int dishCount = isFull ? 16 : 1 + below(chance(5) ? 17 : 7);
+        int mealCount = isFull ? 4 : 1 + below(isWild ? 5 : 3);
+        int ruleCount = isFull ? 8 : below(isWild && chance(20) ? 12 : 6);
         for (int i = 0; i < dishCount + mealCount + ruleCount; i++) {
-            boolean isMixed = chance(10);
+            boolean isMixed = !isFull && chance(10);
             int kind = i < dishCount ? 0 : i < dishCount + mealCount ? 1 : 2;
             switch (isMixed && !dishes.isEmpty() ? below(3) : kind) {
                 case 0: text.append(dishItem(foods)); break;
@@ -234,7 +241,7 @@ public final class ModelTest {
         StringBuilder text = new StringBuilder();
         int count = chance(60) ? 1 + below(2) : 0;
         for (int i = 0; i < count; i++) {
-            String tag = "t" + (char) ('a' + below(isWild ? 18 : 6));
+            String tag = "t" + (char) ('a' + below(isWild ? 18 : isFull ? 14 : 6));
             if (!tags.contains(tag)) {
                 tags.add(tag);
             }
@@ -245,7 +252,7 @@ public final class ModelTest {
 
     private String dishItem(List<String> foods) {
         StringBuilder parts = new StringBuilder();
-        int count = 1 + below(isWild && chance(10) ? 9 : 3);
+        int count = 1 + below(isFull ? 2 : isWild && chance(10) ? 9 : 3);
         for (int i = 0; i < count; i++) {
             parts.append(i == 0 ? "" : ",");
             if (!dishes.isEmpty() && chance(30)) {
@@ -260,9 +267,9 @@ public final class ModelTest {
 
     private String mealItem(List<String> meals) {
         StringBuilder text = new StringBuilder("meal ").append(told(meals, 'm')).append(':');
-        int count = 1 + below(isWild ? 4 : 3);
+        int count = isFull ? 2 : 1 + below(isWild ? 4 : 3);
         for (int i = 0; i < count; i++) {
-            text.append(i == 0 ? "" : ",").append(expression(below(4)));
+            text.append(i == 0 ? "" : ",").append(expression(below(isFull ? 2 : 4)));
         }
         return text.append(';').toString();
     }

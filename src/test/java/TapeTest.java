@@ -5,7 +5,9 @@ public final class TapeTest {
         feeding();
         bytesOfNumbers();
         fullTape();
+        lengthsWithRoom();
         trimming();
+        everyLength();
         Check.end("TapeTest");
     }
 
@@ -89,6 +91,38 @@ public final class TapeTest {
         Check.compileError(1, "^" + Check.repeat(1500, ";", ""));
         Check.compileError(1, "food a 1;food ^" + Check.repeat(1485, "x", ""));
         Check.compileError(1, "food a ^" + Check.repeat(1493, "1", ""));
+    }
+
+    /** Twenty bytes have room behind 1480 bytes, and behind no byte more. */
+    private static void lengthsWithRoom() {
+        for (int length = 1441; length <= 1500; length++) {
+            MenuScript script = new MenuScript();
+            for (int i = 0; i < 75; i++) {
+                script.feed(-1, -1, -1, -1, -1);
+            }
+            script.trim(length);
+            if (length <= 1480) {
+                Check.sameLong("feed behind " + length, script.feed(0, 0, 0, 0, 0), length + 20);
+            } else {
+                Check.isThrown("feed behind " + length, Check.BAD_STATE, () -> script.feed(0, 0, 0, 0, 0));
+                Check.sameLong("count(7) behind " + length, script.count(7), length);
+            }
+        }
+    }
+
+    /** What is trimmed is gone: other bytes stand there when the tape is fed again. */
+    private static void everyLength() {
+        String program = "food a 1;dish d for 1:1 a;meal m:d;";
+        for (int kept = 0; kept <= program.length(); kept++) {
+            MenuScript script = new MenuScript();
+            Check.write(script, program.substring(0, kept) + Check.repeat(program.length() - kept + 20, "#", ""));
+            Check.sameLong("trim(" + kept + ")", script.trim(kept), kept);
+            Check.sameLong("count(7) behind trim(" + kept + ")", script.count(7), kept);
+            int oneMore = kept + 1;
+            Check.isThrown("trim(" + oneMore + ")", Check.BAD_ARGUMENT, () -> script.trim(oneMore));
+            Check.write(script, program.substring(kept));
+            Check.sameLong("compile() behind trim(" + kept + ")", script.compile(), 0);
+        }
     }
 
     private static void trimming() {
