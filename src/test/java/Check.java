@@ -62,7 +62,7 @@ final class Check {
         }
     }
 
-    /** Appends a text of characters 0 to 255 to the tape, without the blanks that fill up the last twenty bytes. */
+    /** Appends a text of characters 0 to 255 to the tape, without the letters that fill up the last twenty bytes. */
     static void write(MenuScript script, String text) {
         int before = script.count(7);
         for (int start = 0; start < text.length(); start += 20) {
@@ -72,10 +72,11 @@ final class Check {
         script.trim(before + text.length());
     }
 
+    /** Letters fill it up, for a word at the end of a trimmed tape must not go on with what was there. */
     static int four(String text, int start) {
         int number = 0;
         for (int i = start; i < start + 4; i++) {
-            number = number << 8 | (i < text.length() ? text.charAt(i) : ' ');
+            number = number << 8 | (i < text.length() ? text.charAt(i) : 'x');
         }
         return number;
     }

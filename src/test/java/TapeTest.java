@@ -8,6 +8,7 @@ public final class TapeTest {
         lengthsWithRoom();
         trimming();
         everyLength();
+        trimmedTokens();
         Check.end("TapeTest");
     }
 
@@ -142,5 +143,33 @@ public final class TapeTest {
         Check.sameLong("compile() behind trim", script.compile(), 0);
         Check.sameLong("count(7) behind compile", script.count(7), 0);
         Check.isThrown("trim(1) behind compile", Check.BAD_ARGUMENT, () -> script.trim(1));
+    }
+
+    /** A word or number ends where the tape ends, whatever stood behind it ahead of trim, compile or test. */
+    private static void trimmedTokens() {
+        String first = "food a 1;dish d for 1:1 a is t;meal m:d;";
+        MenuScript script = Check.compiled(first);
+        Check.write(script, "not ttttttttttttttt");
+        script.trim(5);
+        Check.sameLong("test() of not t", script.test(), 0);
+        Check.sameLong("suited() of not t", script.suited(), 0);
+        Check.write(script, "t");
+        Check.sameLong("test() of t", script.test(), 0);
+        Check.sameLong("suited() of t", script.suited(), 1);
+        script.feed(Check.four("dddd", 0), 0, 0, 0, 0);
+        script.trim(1);
+        Check.sameLong("test() of d", script.test(), 0);
+        Check.sameLong("test() of an empty tape", script.test(), 1);
+        Check.sameLong("errorAt() of an empty tape", script.errorAt(), 0);
+        Check.write(script, "food a 123456789");
+        script.trim(11);
+        Check.sameLong("compile() without an end", script.compile(), 1);
+        Check.sameLong("errorAt() behind four digits", script.errorAt(), 11);
+        Check.write(script, first);
+        script.trim(first.length() - 1);
+        Check.sameLong("compile() without a semicolon", script.compile(), 1);
+        Check.sameLong("errorAt() without a semicolon", script.errorAt(), first.length() - 1);
+        Check.sameLong("compile() of an empty tape", script.compile(), 1);
+        Check.sameLong("errorAt() behind a tape", script.errorAt(), 0);
     }
 }
