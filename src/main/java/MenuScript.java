@@ -247,7 +247,7 @@ public final class MenuScript {
             throw new IllegalArgumentException("1 to 1000 people eat");
         }
         long all = 0;
-        for (int dish = 0; dish < program.dishes.size; dish++) {
+        for (int dish = 0; dish < program.dishes.size && dish < MOST_DISHES; dish++) {
             all += menu.timesOf[dish] * program.gramsFor(people, dish, food);
         }
         return all;
@@ -1034,7 +1034,7 @@ public final class MenuScript {
         }
 
         private void addDish(int dish, int other) {
-            for (int food = 0; food < program.foods.size; food++) {
+            for (int food = 0; food < program.foods.size && food < MOST_FOODS; food++) {
                 program.gramsIn[dish][food] += (int) program.gramsFor(number, other, food);
             }
             dishEnergy += (long) number * program.servingEnergy[other];
@@ -1385,21 +1385,17 @@ public final class MenuScript {
 
         private int spansOutside(int rule, int least, int most, int span) {
             int outside = 0;
-            for (int first = 0; first + span <= days && first < MOST_DAYS; first++) {
-                int meant = meantIn(rule, first, span);
-                if (meant < least || meant > most) {
+            int meant = 0;
+            for (int day = 0; day < days && day < MOST_DAYS; day++) {
+                meant += meantOn[rule][day];
+                if (day >= span && span >= 0) {
+                    meant -= meantOn[rule][day - span];
+                }
+                if (day >= span - 1 && (meant < least || meant > most)) {
                     outside++;
                 }
             }
             return outside;
-        }
-
-        private int meantIn(int rule, int first, int span) {
-            int sum = 0;
-            for (int day = first; day < first + span && day < MOST_DAYS; day++) {
-                sum += meantOn[rule][day];
-            }
-            return sum;
         }
 
         private int daysOutside(int least, int most) {
